@@ -642,7 +642,7 @@ public final class MapItch {
                 seams |= own & beside(ALL_CELLS & ~own);
             }
             itching = 0;
-            for (int one = 0; one < men && one < SURVEYORS; one++) {
+            for (int one = 0; one < men; one++) {
                 placeSurveyor(one);
             }
             stands = true;
@@ -732,7 +732,7 @@ public final class MapItch {
 
         int whoFeels(int cell) {
             int who = 0;
-            for (int one = 0; one < men; one++) {
+            for (int one = 0; one < men && one < SURVEYORS; one++) {
                 who |= (felt[one] >> cell & 1) << one;
             }
             return who;
@@ -763,7 +763,7 @@ public final class MapItch {
 
         int landAfterYear(int someLand) {
             int after = someLand;
-            for (int one = 0; one < men; one++) {
+            for (int one = 0; one < men && one < SURVEYORS; one++) {
                 if (kinds[one] == OBLIGED) {
                     int wrong = Planes.wrong(after, sheet) & ownCells(one);
                     after = Planes.taken(after, sheet, Integer.lowestOneBit(wrong));
@@ -785,7 +785,7 @@ public final class MapItch {
 
         int feltBy(int some) {
             int cells = 0;
-            for (int one = 0; one < men; one++) {
+            for (int one = 0; one < men && one < SURVEYORS; one++) {
                 cells |= (some >> one & 1) == 1 ? felt[one] : 0;
             }
             return cells;

@@ -212,6 +212,8 @@ public final class ActsTest {
         Check.due("wrong", x.bits(0), 1);
         Check.due("seams", x.bits(1), 30 | 30 << 5 | 30 << 10);
         Check.due("at rest", x.bits(2), 2 | 4 | 8);
+        x = Check.with("0,0", "baaaaaaaaaaaaaa", Check.A15, Check.COLUMNS, "z0,1;p0,1;");
+        Check.due("the first", x.bits(2), 1);
         x = Check.with("0,0", Check.A15, Check.A15, "eeeeeeeeeeeeeee", "");
         Check.due("no seams", x.bits(1), 0);
         Check.due("nobody", x.bits(2), 0);

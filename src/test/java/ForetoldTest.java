@@ -98,6 +98,10 @@ public final class ForetoldTest {
         plan(x, 0, 2, 3 * 4 + 1, 13 * 4 + 2);
         x = Check.with("0,0", "aaabaaaabaaaaca", Check.A15, WHOLE, "p0,1;");
         plan(x, 0, Check.NONE, Check.NONE, Check.NONE);
+        x = Check.with("0,0", Check.A15, "baaaaaaaaaaaaaa", WHOLE, "p0,1;");
+        plan(x, 0, 1, 0, Check.NONE);
+        x = Check.with("0,0", Check.A15, "baaaaaaaaaaaaab", WHOLE, "p0,1;");
+        plan(x, 0, 2, 0, 14 * 4);
         // all rest though two cells are wrong: an obliged one feels nothing within
         x = Check.with("0,0", "aaabaaaaaaaaaca", Check.A15, WHOLE, "o0,1;");
         plan(x, 0, 0, Check.NONE, Check.NONE);
@@ -118,6 +122,8 @@ public final class ForetoldTest {
         Check.due("lazy by 1 feels no itch, an obliged one at seams alone", x.unfelt(), 32767 & ~(24 | 24 << 5 | 24 << 10));
         x = Check.with("0,0", "bbbbbbbbbbbbbbb", Check.A15, Check.COLUMNS, "o0,3;");
         Check.due("within its district it has none", x.unfelt(), 32767 & ~(6 | 6 << 5 | 6 << 10));
+        x = Check.with("0,0", "bbbbbbbbbbbbbbb", Check.A15, Check.COLUMNS, "k2,3;");
+        Check.due("far from its district", x.unfelt(), 7 | 7 << 5 | 7 << 10);
         x = Check.with("0,0", "abbbbbbbbbbbbbb", Check.A15, Check.COLUMNS, "");
         Check.due("nobody", x.unfelt(), 32766);
         x = Check.with("0,0", "bbbbbbbbbbbbbbb", Check.A15, WHOLE, "z0,2;");
@@ -152,6 +158,13 @@ public final class ForetoldTest {
         x = Check.with("0,0", Check.A15, Check.A15, "efefefefefefefe", "p0,1;");
         Check.fill(x, 0, 2, 1, 2);
         Check.due("the fewest first", x.fit(0, 0, 1), 1);
+        // 1 (f beside g) and 4 (f beside e) itch as 0 (f) and 8 (f beside both) do, and have the least bits
+        x = Check.with("0,0", Check.A15, Check.A15, "ffffffggfeffffe", "k0,1;k1,1;k2,1;");
+        Check.fill(x, 0, 2, 1, 2, 1);
+        Check.due("the least bits, not the least cell", x.fit(0, 0, 1), 1 << 1 | 1 << 4);
+        Check.due("of so many", x.fit(0, 0, 0), 31);
+        x = Check.with("0,0", Check.A15, Check.A15, "efefefefefefefe", "p0,1;");
+        Check.fill(x, 0, 2, 1, 2);
         Check.due("of like ones the least", x.fit(0, 1, 1), 3);
     }
 
@@ -164,6 +177,11 @@ public final class ForetoldTest {
         for (int i = 0; i < due.length; i++) {
             Check.due("scratch " + i, x.scratch(0, i), due[i]);
         }
+        // cell 0 alone fits: it is as far from half as all others are
+        x = Check.with("0,0", Check.A15, Check.A15, "eegggeggggggggg", "y0,1;k2,1;");
+        Check.fill(x, 0, 2, 1, 0);
+        Check.due("one fits", x.fit(0, 0, 0), 1);
+        Check.due("the least of like ones", x.scratch(0, 0), 0);
         Check.due("status", x.status(), 0);
     }
 
@@ -180,6 +198,10 @@ public final class ForetoldTest {
         x = Check.with("0,0", Check.A15, Check.A15, Check.COLUMNS, "p0,1;k2,1;o0,1;k1,1;");
         Check.due("one", x.men(0), 1);
         Check.due("who is not the least by bits of more", x.men(1), 8);
+        x = Check.with("0,0", Check.A15, Check.A15, "efgggfggggggggg", "p2,1;");
+        Check.due("the first cell is felt by nobody", x.men(0), Check.NONE);
+        x = Check.with("0,0", Check.A15, Check.A15, "efgggfggggggggg", "p2,1;k2,1;p1,1;");
+        Check.due("f feels all", x.men(1), 4);
     }
 
     private static void signs() {
@@ -192,6 +214,9 @@ public final class ForetoldTest {
         Check.due("sign 0", x.sign(0), 1);
         Check.due("sign 1", x.sign(1), 0);
         Check.due("sign 2", x.sign(2), Check.NONE);
+        x = Check.with("0,0", "baaaaaaaaaaaaaa", Check.A15, Check.COLUMNS, "p0,1;k0,1;");
+        Check.due("of like ones the first", x.sign(0), 0);
+        Check.due("and the next", x.sign(1), 1);
     }
 
     private static void settles() {

@@ -42,12 +42,14 @@ public final class RowsTest {
         Check.due("40 items", x.row(7, 2, 40), 40);
         Check.due("rows", x.count(0), 2);
         Check.due("put", x.set(7, 39, 9), 9);
+        Check.due("put at 0", x.set(7, 0, 9), 9);
         Check.due("in its place", x.row(7, 2, 40), 40);
         Check.due("rows still", x.count(0), 2);
         Check.due("a row to copy to", x.row(1, 2, 40), 40);
         Check.due("put 7", x.set(1, 0, 7), 7);
         x.copy(7, 39, 1, 0, 1);
         Check.due("0 again", firstOf(x, 1), 0);
+        Check.due("0 at 0, too", firstOf(x, 7), 0);
         x.set(7, 0, 5);
         Check.due("SIZE leaves the row", x.row(7, 2, -1), Check.SIZE);
         Check.due("as it was", x.drop(7), 40);

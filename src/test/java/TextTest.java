@@ -51,6 +51,10 @@ public final class TextTest {
         Check.due("no fault", x.fault(), 0);
         Check.due("none", Check.read(x, "l00,00;m" + Check.A15 + ";n" + Check.A15 + ";c" + Check.COLUMNS + ";"), 0);
         Check.due("in its place", x.count(1) + x.count(2) + x.count(3), 0);
+        Check.due("other districts", Check.read(x, HEAD.replace(Check.COLUMNS, "ggggggggggggggg")), 0);
+        for (int cell = 0; cell < 15; cell++) {
+            Check.due("district of " + cell, x.cell(cell, 2), 2);
+        }
         Check.due("an obliged one", Check.read(x, HEAD + "o2,5;"), 1);
         Check.due("kind", x.kind(0), 5);
     }
