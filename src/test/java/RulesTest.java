@@ -10,7 +10,7 @@ public final class RulesTest {
         "\\bpackage\\b", "\\bimport\\b", "\\bthrows?\\b", "\\btry\\b", "\\bcatch\\b", "\\bsynchronized\\b",
         "\\bassert\\b", "->", "::", "\\bprotected\\b", "Exact\\s*\\(", "\\bSystem\\.(?!arraycopy\\b)", "\\bRandom\\b",
         "\\bThread\\b", "\\bhashCode\\b", "\\btoString\\b", "\\bstatic\\s*\\{", "while\\s*\\(\\s*true", "for\\s*\\(;;",
-        "\\bnull\\b", "[^\\x09\\x0a\\x20-\\x7e]"
+        "[^\\x09\\x0a\\x20-\\x7e]"
     };
 
     public static void main(String[] args) throws IOException {
