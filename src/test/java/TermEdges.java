@@ -260,6 +260,20 @@ final class TermEdges extends Check {
         all.add(new Refused("restore(0)", STATE, x -> x.restore(0)));
         all.add(new Refused("ask(0, 0)", BAD, x -> x.ask(0, 0)));
         all.add(new Refused("each(0, 0)", STATE, x -> x.each(0, 0)));
+        all.add(new Refused("cell(0, 0)", STATE, x -> x.cell(0, 0)));
+        all.add(new Refused("bits(0)", STATE, x -> x.bits(0)));
+        all.add(new Refused("strokes(0, -1)", STATE, x -> x.strokes(0, -1)));
+        all.add(new Refused("unfelt()", STATE, x -> x.unfelt()));
+        all.add(new Refused("fit(0, 0, 0)", STATE, x -> x.fit(0, 0, 0)));
+        all.add(new Refused("scratch(0, 0)", STATE, x -> x.scratch(0, 0)));
+        all.add(new Refused("men(0)", STATE, x -> x.men(0)));
+        all.add(new Refused("sign(0)", STATE, x -> x.sign(0)));
+        all.add(new Refused("settled(0)", STATE, x -> x.settled(0)));
+        all.add(new Refused("drawnSo(0, 0, 0, 0)", STATE, x -> x.drawnSo(0, 0, 0, 0)));
+        all.add(new Refused("drawn(1, 1, 0)", STATE, x -> x.drawn(1, 1, 0)));
+        all.add(new Refused("surveyor(0, 0)", BAD, x -> x.surveyor(0, 0)));
+        all.add(new Refused("kind(0)", BAD, x -> x.kind(0)));
+        all.add(new Refused("as(0, 0)", BAD, x -> x.as(0, 0)));
         all.add(new Refused("drop(0)", NULL, x -> x.drop(0)));
         all.add(new Refused("row(0, 0, -1)", SIZE, x -> x.row(0, 0, -1)));
         return all;
@@ -267,6 +281,7 @@ final class TermEdges extends Check {
 
     private static List<Refused> ofBusy() {
         List<Refused> all = new ArrayList<>();
+        all.add(new Refused("row(8, 2, 4)", BAD, x -> x.row(8, 2, 4)));
         all.add(new Refused("row(0, 2, 41)", BAD, x -> x.row(0, 2, 41)));
         all.add(new Refused("row(0, 3, 4)", BAD, x -> x.row(0, 3, 4)));
         all.add(new Refused("row(0, 2, -1)", SIZE, x -> x.row(0, 2, -1)));
@@ -289,19 +304,29 @@ final class TermEdges extends Check {
         all.add(new Refused("years(0)", BAD, x -> x.years(0)));
         all.add(new Refused("years(25)", BAD, x -> x.years(25)));
         all.add(new Refused("cell(15, 0)", BAD, x -> x.cell(15, 0)));
+        all.add(new Refused("cell(0, 5)", BAD, x -> x.cell(0, 5)));
         all.add(new Refused("surveyor(3, 0)", BAD, x -> x.surveyor(3, 0)));
+        all.add(new Refused("surveyor(0, 4)", BAD, x -> x.surveyor(0, 4)));
         all.add(new Refused("bits(3)", BAD, x -> x.bits(3)));
         all.add(new Refused("strokes(2, 0)", BAD, x -> x.strokes(2, 0)));
+        all.add(new Refused("strokes(0, 2)", BAD, x -> x.strokes(0, 2)));
         all.add(new Refused("each(8, 0)", BAD, x -> x.each(8, 0)));
         all.add(new Refused("each(1, 0)", NULL, x -> x.each(1, 0)));
         all.add(new Refused("each(0, 1)", PLACE, x -> x.each(0, 1)));
+        all.add(new Refused("fit(8, 0, 0)", BAD, x -> x.fit(8, 0, 0)));
         all.add(new Refused("fit(0, 0, 2)", BAD, x -> x.fit(0, 0, 2)));
+        all.add(new Refused("fit(1, 0, 0)", NULL, x -> x.fit(1, 0, 0)));
         all.add(new Refused("fit(0, 1, 0)", PLACE, x -> x.fit(0, 1, 0)));
+        all.add(new Refused("scratch(8, 0)", BAD, x -> x.scratch(8, 0)));
+        all.add(new Refused("scratch(1, 0)", NULL, x -> x.scratch(1, 0)));
         all.add(new Refused("scratch(5, 0)", PLACE, x -> x.scratch(5, 0)));
         all.add(new Refused("men(2)", BAD, x -> x.men(2)));
         all.add(new Refused("sign(4)", BAD, x -> x.sign(4)));
         all.add(new Refused("settled(2)", BAD, x -> x.settled(2)));
         all.add(new Refused("drawnSo(0, 11, 0, 0)", BAD, x -> x.drawnSo(0, 11, 0, 0)));
+        all.add(new Refused("quarrel(8, 0, 0)", BAD, x -> x.quarrel(8, 0, 0)));
+        all.add(new Refused("quarrel(2, 0, 2)", BAD, x -> x.quarrel(2, 0, 2)));
+        all.add(new Refused("quarrel(1, 0, 0)", NULL, x -> x.quarrel(1, 0, 0)));
         all.add(new Refused("quarrel(0, 0, 0)", PLACE, x -> x.quarrel(0, 0, 0)));
         all.add(new Refused("quarrel(2, 1, 0)", BAD, x -> x.quarrel(2, 1, 0)));
         all.add(new Refused("drawn(61, 1, 0)", BAD, x -> x.drawn(61, 1, 0)));
@@ -310,6 +335,7 @@ final class TermEdges extends Check {
         all.add(new Refused("restore(1)", STATE, x -> x.restore(1)));
         all.add(new Refused("kind(3)", BAD, x -> x.kind(3)));
         all.add(new Refused("as(3, 0)", BAD, x -> x.as(3, 0)));
+        all.add(new Refused("as(0, 6)", BAD, x -> x.as(0, 6)));
         all.add(new Refused("as(1, 2)", KIND, x -> x.as(1, 2)));
         all.add(new Refused("ask(3, 0)", BAD, x -> x.ask(3, 0)));
         all.add(new Refused("ask(0, 2)", BAD, x -> x.ask(0, 2)));
