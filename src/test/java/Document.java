@@ -11,6 +11,7 @@ final class Document {
     private static final String PATH = System.getProperty("mapitch.document", "");
     private static final Map<String, String> TEXTS = new LinkedHashMap<>();
     private static final Map<String, StringBuilder> LEFT = new LinkedHashMap<>();
+    private static final List<String> FACE = new ArrayList<>();
 
     static {
         load();
@@ -21,6 +22,11 @@ final class Document {
 
     static boolean isThere() {
         return !TEXTS.isEmpty();
+    }
+
+    /** The methods of the document's face, as "int row(int,int,int)". */
+    static List<String> face() {
+        return FACE;
     }
 
     static boolean quote(String section, String words) {
@@ -56,6 +62,8 @@ final class Document {
         for (String line : lines(path)) {
             if (line.startsWith("## ")) {
                 section = line.substring(3).replaceAll(":.*", "");
+            } else if (section.equals("The public face") && line.matches(" +public (int|long) \\w+\\(.*\\);")) {
+                FACE.add(line.replaceAll("int \\w+(?=[,)])", "int").replaceAll(" +public |;|(?<=,) ", ""));
             } else if (isQuotable(section) && !line.startsWith("```") && !line.startsWith("Ahead of the calls")) {
                 texts.computeIfAbsent(section, s -> new StringBuilder()).append(line).append(' ');
             }

@@ -39,6 +39,9 @@ public final class FaceTest {
             System.out.println(fault);
         }
         Check.due("faults of the face", faults.size(), 0);
+        if (Document.isThere()) {
+            Check.due("the document's face", List.of(FACE).equals(Document.face()) ? 1 : 0, 1);
+        }
         Check.end();
     }
 
